@@ -1,0 +1,48 @@
+/** Counts what is due and what is not, for the tests of the project. */
+final class Check {
+    private static int wrong = 0;
+    private static int right = 0;
+
+    interface Call {
+        void make();
+    }
+
+    private Check() {
+    }
+
+    static void same(String what, Object answer, Object due) {
+        if (due.equals(answer)) {
+            right++;
+        } else {
+            fail(what + " answered " + answer + ", due is " + due);
+        }
+    }
+
+    static void fail(String what) {
+        wrong++;
+        System.out.println("WRONG: " + what);
+    }
+
+    /** The exception must be the very class that the document names, thrown by a line of Mailmerge. */
+    static void refuses(String what, Class<? extends RuntimeException> due, Call call) {
+        try {
+            call.make();
+            fail(what + " answered, due is " + due.getSimpleName());
+        } catch (RuntimeException thrown) {
+            same(what + " throws", thrown.getClass(), due);
+            same(what + " thrown by the class itself", isThrownByTheClass(thrown), true);
+        }
+    }
+
+    static boolean isThrownByTheClass(Throwable thrown) {
+        StackTraceElement[] trace = thrown.getStackTrace();
+        return trace.length > 0 && trace[0].getClassName().startsWith("Mailmerge");
+    }
+
+    static void end(String test) {
+        System.out.println(test + ": " + right + " answers as due, " + wrong + " not");
+        if (wrong != 0) {
+            System.exit(1);
+        }
+    }
+}
