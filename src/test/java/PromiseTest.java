@@ -44,6 +44,7 @@ public final class PromiseTest {
         promise29CostOf();
         promise30ProofAt();
         promises31And32Figures();
+        promises31And32FromTheFirstRunOn();
         promise33IsSound();
         Check.end("PromiseTest");
     }
@@ -896,6 +897,16 @@ public final class PromiseTest {
         Check.same("the pages are kept", made.meanPages(), 4.0 / 3.0);
         made.comesBack(1, 0, 'm');
         Check.same("all back", made.returnShare(), 1f);
+    }
+
+    private static void promises31And32FromTheFirstRunOn() {
+        Mailmerge made = stocked();
+        made.addPerson(0, 0);
+        made.run(0, false);
+        Check.same("one page", made.meanPages(), 1.0);
+        made.comesBack(0, 0, 'u');
+        Check.same("all back", made.returnShare(), 1f);
+        Check.same("sound", made.isSound(), true);
     }
 
     private static void promise33IsSound() {
