@@ -2,6 +2,7 @@
 final class Check {
     private static int wrong = 0;
     private static int right = 0;
+    private static String where = "";
 
     interface Call {
         void make();
@@ -20,7 +21,18 @@ final class Check {
 
     static void fail(String what) {
         wrong++;
-        System.out.println("WRONG: " + what);
+        System.out.println("WRONG: " + where + what);
+    }
+
+    /** Makes the checks of a test; an exception that none of them is due for is a wrong answer of this test. */
+    static void during(String what, Runnable test) {
+        where = what + ": ";
+        try {
+            test.run();
+        } catch (RuntimeException thrown) {
+            fail("a call throws " + thrown);
+        }
+        where = "";
     }
 
     /** The exception must be the very class that the document names, thrown by a line of Mailmerge. */
