@@ -236,7 +236,7 @@ public final class Mailmerge {
         if (how != 'u' && how != 'm' && how != 'd') {
             throw new IllegalArgumentException("there is no such way to come back");
         }
-        if (!entry.isStillOut()) {
+        if (!entry.isLetter() || entry.isBack) {
             throw new IllegalStateException("no letter was made, or it has come back");
         }
         entry.isBack = true;
@@ -408,7 +408,7 @@ public final class Mailmerge {
             ArrayList<Entry> lettersBefore = runs.get(runs.size() - 1).posted;
             for (int i = 0; i < lettersBefore.size(); i++) {
                 Entry letter = lettersBefore.get(i);
-                if (letter.isStillOut()) {
+                if (!letter.isBack) {
                     letter.person.home.draftStruck = 0;
                 }
             }
@@ -675,10 +675,6 @@ public final class Mailmerge {
             return outcome == 'l';
         }
 
-        boolean isStillOut() {
-            return isLetter() && !isBack;
-        }
-
         int tens() {
             return code / 10;
         }
@@ -754,7 +750,7 @@ public final class Mailmerge {
         boolean hasArrivedAt(Address home) {
             for (int i = 0; i < posted.size(); i++) {
                 Entry letter = posted.get(i);
-                if (letter.person.home == home && letter.isStillOut()) {
+                if (letter.person.home == home && !letter.isBack) {
                     return true;
                 }
             }

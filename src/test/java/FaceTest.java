@@ -1,26 +1,25 @@
+import java.io.IOException;
 import java.lang.reflect.Constructor;
 import java.lang.reflect.Field;
 import java.lang.reflect.Method;
 import java.lang.reflect.Modifier;
+import java.nio.charset.StandardCharsets;
+import java.nio.file.Files;
+import java.nio.file.Path;
 import java.util.ArrayList;
 import java.util.Collections;
 import java.util.List;
+import java.util.regex.Matcher;
+import java.util.regex.Pattern;
 
 /** The class shows the document's face and nothing else. */
 public final class FaceTest {
-    private static final String[] FACE = {
-        "addAddress(int):int", "join(int,int):int", "addPerson(int,int):int", "setFlags(int,int):int",
-        "move(int,int):int", "suppress(int,char):char", "allow(int):char", "addressOf(int):int",
-        "reasonOf(int):char", "strikes(int):int", "addTemplate():int", "addPart(int,int,int,int):int",
-        "pagesFor(int,int):int", "buyPaper(int):int", "buyEnvelopes(boolean,int):int", "paper():int",
-        "envelopes(boolean):int", "run(int,boolean):int", "preview(int,boolean,int):char",
-        "previewAlone(int,boolean,int):char", "outcome(int,int):char", "comesBack(int,int,char):int",
-        "setBound(int):int", "letters(int):int", "postedAt(int,int):int", "onRoute(int,int):int",
-        "postage(int,int):int", "costOf(int):long", "proofAt(int,int):int", "returnShare():float",
-        "meanPages():double", "isSound():boolean",
-    };
+    private static final Path DOCUMENT = Path.of("..", "shared", "DOC.md");
+    private static final Pattern METHOD = Pattern.compile("(?m)^    public (\\w+ .*);$");
+    /** A name before a comma or the closing bracket; those behind the bracket are exceptions. */
+    private static final Pattern PARAMETER_NAME = Pattern.compile(" \\w+(?=[,)])(?=.*\\))");
 
-    public static void main(String[] args) {
+    public static void main(String[] args) throws IOException {
         Check.same("public and final", Mailmerge.class.getModifiers(), Modifier.PUBLIC | Modifier.FINAL);
         checkMethods();
         checkConstructors();
@@ -29,7 +28,7 @@ public final class FaceTest {
         Check.end("FaceTest");
     }
 
-    private static void checkMethods() {
+    private static void checkMethods() throws IOException {
         List<String> shown = new ArrayList<>();
         List<String> shownNames = new ArrayList<>();
         for (Method method : Mailmerge.class.getDeclaredMethods()) {
@@ -39,10 +38,8 @@ public final class FaceTest {
                 Check.same(method.getName() + " is public", method.getModifiers(), Modifier.PUBLIC);
             }
         }
-        List<String> due = new ArrayList<>(List.of(FACE));
-        Collections.sort(due);
         Collections.sort(shown);
-        Check.same("the methods", shown, due);
+        Check.same("the methods", shown, methodsOfTheDocument());
         for (Method method : Mailmerge.class.getDeclaredMethods()) {
             if (Modifier.isPrivate(method.getModifiers())) {
                 Check.same("a private " + method.getName(), shownNames.contains(method.getName()), false);
@@ -50,14 +47,31 @@ public final class FaceTest {
         }
     }
 
+    /** As the document writes it, but for the names of the parameters. */
     private static String signature(Method method) {
-        StringBuilder text = new StringBuilder(method.getName()).append('(');
-        String gap = "";
-        for (Class<?> kind : method.getParameterTypes()) {
-            text.append(gap).append(kind.getName());
-            gap = ",";
+        String text = method.getReturnType().getName() + " " + method.getName()
+                + "(" + namesOf(method.getParameterTypes()) + ")";
+        Class<?>[] thrown = method.getExceptionTypes();
+        return thrown.length == 0 ? text : text + " throws " + namesOf(thrown);
+    }
+
+    private static String namesOf(Class<?>[] kinds) {
+        List<String> names = new ArrayList<>();
+        for (Class<?> kind : kinds) {
+            names.add(kind.getSimpleName());
         }
-        return text.append("):").append(method.getReturnType().getName()).toString();
+        return String.join(", ", names);
+    }
+
+    private static List<String> methodsOfTheDocument() throws IOException {
+        List<String> due = new ArrayList<>();
+        Matcher line = METHOD.matcher(Files.readString(DOCUMENT, StandardCharsets.UTF_8));
+        while (line.find()) {
+            due.add(PARAMETER_NAME.matcher(line.group(1)).replaceAll(""));
+        }
+        Check.same("methods in the document", due.size(), 32);
+        Collections.sort(due);
+        return due;
     }
 
     private static void checkConstructors() {

@@ -11,6 +11,7 @@ public final class UnsoundTest {
         stockThatDoesNotAddUp();
         previewsThatDisagree();
         previewsThatDisagreeInOnePlace();
+        previewsThatDisagreeNotByHouseholds();
         Check.end("UnsoundTest");
     }
 
@@ -66,6 +67,33 @@ public final class UnsoundTest {
                 }
             }
         });
+    }
+
+    /**
+     * A person who stands in the row twice, behind a housemate: the stock suffices for the first time alone, so going
+     * through all people ends at 'p', and by households both times are 'h' for either way.
+     */
+    private static void previewsThatDisagreeNotByHouseholds() {
+        Sentences.holds(33, "for each template and each person, by households and not", () -> {
+            Mailmerge made = Scenes.people(2);
+            made.addTemplate();
+            Scenes.addParts(made, 0, 10);
+            made.buyPaper(2);
+            made.buyEnvelopes(false, 2);
+            Check.same("isSound", made.isSound(), true);
+            standTwice(made, 1);
+            Check.same("by households", Scenes.previews(made, 0, true, 3), "lhh");
+            Check.same("by households, alone", Scenes.previewsAlone(made, 0, true, 3), "lhh");
+            Check.same("not by households", Scenes.previews(made, 0, false, 3), "lpp");
+            Check.same("not by households, alone", Scenes.previewsAlone(made, 0, false, 3), "llp");
+            Check.same("isSound", made.isSound(), false);
+        });
+    }
+
+    @SuppressWarnings("unchecked")
+    private static void standTwice(Mailmerge made, int person) {
+        List<Object> people = (List<Object>) get(made, "people");
+        people.add(people.get(person));
     }
 
     /** Gives a person an address that the factory doesn't know, so that no preview begins it anew. */
